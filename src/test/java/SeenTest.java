@@ -4,6 +4,9 @@ public final class SeenTest {
     private static final int FULL = FeatherShares.FULL, NONE = FeatherShares.NONE;
     private static final int MOST = Integer.MAX_VALUE, LEAST = Integer.MIN_VALUE;
 
+    private static final String THREE_GEESE =
+        "plain 0 1;swan 3 2;moulter 2 3;share 0 0 40;share 1 1 40;share 2 2 40;share 0 3 9;";
+
     public static void main(String[] args) {
         see();
         forget();
@@ -67,8 +70,14 @@ public final class SeenTest {
         Check.is("goose -1", x.kinds(-1), BAD);
         Check.is("nothing is changed", x.goose(0, 0), 3);
         FeatherShares y = Check.of("plain 4 1;share 0 0 99;");
-        y.see(0, 0, 20, 7);
-        Check.is("behind 20", y.kinds(0), y.later(0, 0, 20) == 7 ? 0b0101 : 0);
+        int plainBehind20 = 99;
+        for (int week = 0; week < 20; week++) {
+            plainBehind20 -= plainBehind20 / 8;
+        }
+        y.see(0, 0, 20, plainBehind20);
+        Check.is("behind 20", y.kinds(0), 0b0101);
+        y.see(0, 0, 20, plainBehind20 + 1);
+        Check.is("not so behind 20", y.kinds(0), 0);
     }
 
     private static void skins() {
@@ -132,8 +141,10 @@ public final class SeenTest {
         Check.is("no trade came", x.drift(0, 1, 1), 0);
         Check.is("as it would be", x.rule(1), 0);
         for (int seed : new int[] {0, 1, 7, -1, 12345, MOST, LEAST, 1 << 16}) {
-            driftIs(seed, 60);
-            driftIs(seed, 1);
+            for (int n : new int[] {1, 2, 60}) {
+                driftIs(THREE_GEESE, 3, seed, n);
+                driftIs("plain 0 1;share 0 0 40;share 0 2 40;", 1, seed, n);
+            }
         }
         Check.is("n 0", x.drift(1, 0, 0), BAD);
         Check.is("n 61", x.drift(1, 61, 0), BAD);
@@ -145,8 +156,8 @@ public final class SeenTest {
     }
 
     /** The same by calls of buy() and weeks(), the seed in long numbers. */
-    private static void driftIs(int firstSeed, int n) {
-        FeatherShares x = Check.of("plain 0 1;swan 3 2;moulter 2 3;share 0 0 40;share 1 1 40;share 2 2 40;share 0 3 9;");
+    private static void driftIs(String text, int geese, int firstSeed, int n) {
+        FeatherShares x = Check.of(text);
         int laidDue = x.drift(firstSeed, n, 0);
         int cameDue = x.drift(firstSeed, n, 1);
         long seed = firstSeed & 0xffffffffL;
@@ -155,7 +166,7 @@ public final class SeenTest {
         for (int i = 0; i < n; i++) {
             seed = (seed * 1103515245L + 12345L) & 0xffffffffL;
             int got = (int) (seed / 65536 % 32768);
-            if (x.buy(got / 4 % 5, got / 32 % 5, got % 3, 1 + got / 256 % 9) >= 0) {
+            if (x.buy(got / 4 % 5, got / 32 % 5, got % geese, 1 + got / 256 % 9) >= 0) {
                 came++;
             } else {
                 laid += x.weeks(1);

@@ -106,6 +106,10 @@ public final class SheetTest {
         Check.is("0 of 1", y.read(3, 1, 0, 1), 1);
         y.sheet(3, 1, 4);
         Check.is("cells are 0 again", y.read(3, 1, 0, 1), -20);
+        y.lay(3, 1, 1);
+        y.lay(3, 3, 2);
+        Check.is("0 buys of goose 0", y.read(3, 1, 0, 1), 1);
+        Check.is("two more", y.share(0, 0), 3);
     }
 
     private static void lay() {
@@ -233,6 +237,12 @@ public final class SheetTest {
         for (int what = 0; what < 6; what++) {
             Check.is("count(" + what + ")", x.count(what), due[what]);
         }
+        for (int i = 3; i <= 6; i++) {
+            x.plan(0, 1, 0, 9);
+        }
+        Check.is("feathers of six", x.count(5), 13 + 36);
+        x.cut(1);
+        Check.is("feathers of one", x.count(5), 4);
         Check.is("count(6)", x.count(6), BAD);
         Check.is("count(-1)", x.count(-1), BAD);
     }

@@ -90,6 +90,9 @@ public final class TextTest {
         Check.is("share", x.share(1, 4), 99);
         Check.is("money", x.owner(2, 0), 0);
         Check.is("trade", x.trade(0, 3), 9);
+        Check.is("trade of the last", Check.tell(x, "plain 0 1;plain 0 1;plain 0 1;trade 3 4 2 1;money 4 99;share 2 4 0;"), 6);
+        Check.is("of whom", x.trade(0, 1), 4);
+        Check.is("all geese", Check.tell(x, "plain0 3;moulter4 9;share1 4 99;money2 0;trade4 0 1 9;"), 5);
         Check.is("many blanks", Check.tell(x, "  swan   01  09  ;   drake 04 1  ;  "), 2);
         Check.is("kind swan", x.goose(0, 0), 2);
         Check.is("skin of two figures", x.goose(0, 1), 1);
@@ -154,6 +157,10 @@ public final class TextTest {
         refused("fox 1 1;", 0, 2);
         refused("plainplain 1 1;", 0, 2);
         refused("plai 1 1;", 0, 2);
+        refused("plainz 1 1;", 0, 2);
+        refused("zwan 1 1;", 0, 2);
+        refused("plaia 1 1;", 0, 2);
+        refused("blain 1 1;", 0, 2);
         refused(";", 0, 2);
         refused("  12", 2, 2);
         refused("plain", 5, 2);

@@ -6,6 +6,7 @@ public final class TextTest {
     public static void main(String[] args) {
         newObject();
         feedAndEnd();
+        textOfThePartKept();
         texts();
         textReplacesAll();
         faultOne();
@@ -77,6 +78,26 @@ public final class TextTest {
         Check.is("end keeps the first", y.end(10), 14);
         Check.is("text of the first", y.text(), 1);
         Check.is("goose of the first", y.goose(0, 2), 2);
+    }
+
+    private static void keptOf(String text, int n, int answer, int fault) {
+        FeatherShares x = new FeatherShares();
+        for (char c : text.toCharArray()) {
+            x.feed(c);
+        }
+        x.end(n);
+        Check.is("text() of " + n + " of " + text, x.text(), answer);
+        Check.is("fault() of " + n + " of " + text, x.fault(), fault);
+    }
+
+    private static void textOfThePartKept() {
+        keptOf("plainx", 5, -15, 2);
+        keptOf("plain 0 123", 10, -18, 3);
+        keptOf("plain 0 1;;", 10, 1, 0);
+        keptOf("a".repeat(160), 160, -10, 2);
+        keptOf("1".repeat(160), 160, -10, 1);
+        keptOf(" ".repeat(150) + "plain 0 1;", 160, 1, 0);
+        keptOf(" ".repeat(151) + "plain 0 1", 160, -170, 2);
     }
 
     private static void texts() {

@@ -14,7 +14,9 @@ public final class EdgeTextTest {
         eachByteAsAToken();
         blanks();
         namesOfLines();
+        asLongAsMayBe();
         numbersOfOneOrTwoFigures();
+        outOfBoundsIsThree();
         boundsOfGeese();
         boundsOfShares();
         boundsOfMoney();
@@ -227,6 +229,20 @@ public final class EdgeTextTest {
         faultIs("money 0;", 7, 2);
     }
 
+    private static void asLongAsMayBe() {
+        Check.sentence("TOKENS, each as long as may be");
+        faultIs("plainswan 0 1;", 0, 2);
+        faultIs("plain 0 1;moneymoney 0 1;", 10, 2);
+        faultIs("plain 11;", 6, 3);
+        faultIs("plain 041;", 6, 1);
+        faultIs("plain 0 110;", 8, 1);
+        faultIs("share 0 1 2 3;", 12, 2);
+        faultIs("share 0 012;", 8, 1);
+        faultIs("share 0 12;", 8, 3);
+        Check.is("a number ends where a name begins", Check.tell(new FeatherShares(), "plain0 1;swan0 1;"), 2);
+        faultIs("plain 0 1swan 0 1;", 9, 2);
+    }
+
     private static void numbersOfOneOrTwoFigures() {
         Check.sentence("1 no TOKEN, a NUMBER that is too long (its first byte).");
         for (int figures = 1; figures <= 150; figures++) {
@@ -263,6 +279,21 @@ public final class EdgeTextTest {
                 Check.is("fault() of " + text, x.fault(), within ? 0 : 3);
             }
         }
+    }
+
+    private static void outOfBoundsIsThree() {
+        Check.sentence("3 a NUMBER out of its bounds (trade: of whom alike with who buys).");
+        for (int o = 0; o < 5; o++) {
+            faultIs("trade " + o + " " + o + " 0 1;", 8, 3);
+            faultIs("trade " + o + " 0" + o + " 0 1;", 8, 3);
+            faultIs("trade 0" + o + "  " + o, 10, 3);
+        }
+        faultIs("trade 5 5 0 1;", 6, 3);
+        faultIs("trade 4 5 0 1;", 8, 3);
+        faultIs("trade 0 1 0 1;trade 1 0 0 1;trade 1 1 0 1;", 36, 3);
+        faultIs("plain 99 99;", 6, 3);
+        faultIs("plain 04 00;", 9, 3);
+        faultIs("plain 0 1;share 00 05 00;", 19, 3);
     }
 
     private static void boundsOfGeese() {
@@ -428,7 +459,7 @@ public final class EdgeTextTest {
     }
 
     private static void whatNoLineTells() {
-        Check.sentence("(what no line tells is as at first)");
+        Check.sentence("A text that is taken tells all, in place of what there was (what no line tells is as at first)");
         FeatherShares x = Worlds.ALL[0].make();
         x.end(0);
         Check.is("text()", Check.tell(x, "swan 4 9;moulter 0 1;share 1 3 5;money 2 77;"), 4);

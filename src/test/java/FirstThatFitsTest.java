@@ -7,6 +7,11 @@ public final class FirstThatFitsTest {
     private static final int INDEX = 2, CAST = 3;
 
     public static void main(String[] args) {
+        Check.sentence("STATE -2 (as told), FULL -3, NONE -4 (there is none), the first that fits");
+        Check.is("BAD", BAD, -1);
+        Check.is("STATE", STATE, -2);
+        Check.is("FULL", FULL, -3);
+        Check.is("NONE", NONE, -4);
         badAheadOfFull();
         badAheadOfStateOfTrades();
         badAheadOfState();

@@ -39,7 +39,7 @@ final class Worlds {
         x.see(0, 0, 1, 9);
         x.see(2, 4, 20, 3);
         x.sheet(0, 1, 9);
-        layRow(x, 0, 0, 1, 2, 0, 1, 2, 1, 1, 2, 3);
+        layRow(x, 0, 0, 1, 2, 4, 1, 2, 1, 1, 2);
         x.sheet(1, 0, 4);
         layRow(x, 1, 4, 3, 2, 5);
         x.sheet(2, 2, 8);

@@ -3,14 +3,16 @@ final class Check {
     private static int right = 0;
     private static int wrong = 0;
     private static String sentence = "";
-    private static int answersOfSentence = 1;
+    private static int answersOfSentence = 0;
 
     private Check() {
     }
 
     /** What follows is asked by this sentence of the document; one that is followed by nothing is a fault. */
     static void sentence(String quote) {
-        weigh("tests of \"" + sentence + "\"", Math.min(1, answersOfSentence), 1);
+        if (!sentence.isEmpty()) {
+            weigh("tests of \"" + sentence + "\"", Math.min(1, answersOfSentence), 1);
+        }
         sentence = quote;
         answersOfSentence = 0;
     }
